@@ -115,6 +115,8 @@ final class NatureTest {
         check.due("commute: apart", x.commute(1, 3), 1);
         x.power(4, 0, 12);
         check.due("commute: both FULL", x.commute(4, 4), FULL);
+        x.power(4, 0, 11);
+        check.due("commute: 24 are not too many", x.commute(4, 4), 1);
         oneFull();
     }
 
